@@ -9,7 +9,7 @@ import java.util.Random;
 
 /** Runs of chance calls, whose every answer is held against the document read a second time (PlainLights). */
 public final class AgainstPlainTest {
-    private static final int RUNS = 1500;
+    private static final int RUNS = 2500;
     private static final int CALLS = 200;
 
     private final Random random;
@@ -161,7 +161,7 @@ public final class AgainstPlainTest {
                 String act = new String[] {"hatch", "open", "rehearse", "turn", "undo", "redo"}[random.nextInt(6)];
                 method = methods.stream().filter(m -> m.getName().equals(act)).findFirst().orElseThrow();
             }
-            if (isDear(method.getName()) && random.nextInt(4) > 0 || method.getName().equals("crossing")) {
+            if (isDear(method.getName()) && random.nextInt(2) > 0 || method.getName().equals("crossing")) {
                 continue;
             }
             Object[] args = new Object[method.getParameterCount()];

@@ -218,6 +218,11 @@ public final class PromisesTest {
         DUE.is("11 hatches", x.about(6), 999);
         DUE.is("11 waited at most", x.comer(0, 3), 999);
         DUE.is("20 goes on", x.when(0), 1);
+        HatchLights y = DUE.told("roads 1;word a moves 1;comer p road 0 says a;worth waited>999;");
+        for (int i = 0; i < 999; i++) {
+            y.hatch();
+        }
+        DUE.is("20 waited at most", y.when(0), -1);
     }
 
     private static void rehearse() {
@@ -522,6 +527,9 @@ public final class PromisesTest {
                 + "worth waited > 18 and moved = 3 or waited > 20 and moved = 4;");
         DUE.is("27 twenty hatches", late.rivals(0, 1), 2);
         lying(late, "27 twenty hatches", 0, 0);
+        DUE.is("27 twenty hatches, the other way", late.rivals(1, 0), 2);
+        lying(late, "27 twenty hatches, the other way", 0, 0);
+        DUE.is("27 q says another one", late.rehearse(1, 1), 0);
     }
 
     private static void sparkAndDrop() {
@@ -599,6 +607,11 @@ public final class PromisesTest {
         DUE.is("35 nothing done", x.comer(0, 1), 0);
         HatchLights y = DUE.told("roads 2;word a moves 5;word b moves 20;comer p road 0 says a;comer q road 1 says b;");
         DUE.is("35 not in one row", y.reorder(9, 0), -1);
+        HatchLights z = DUE.told("roads 2;word a moves 5;word b moves 20;comer p road 0 says b;comer q road 0 says a;comer r road 1 says a;");
+        z.turn(0, 1);
+        DUE.is("35 in one row alone", z.reorder(2, 0), 0);
+        DUE.is("35 in one row alone", z.reorder(2, 1), 2);
+        DUE.is("35 in one row alone", z.reorder(2, 2), 5);
     }
 
     private static void lookRound() {

@@ -94,6 +94,48 @@ public final class TextTest {
         DUE.is("9999 - 12", x.worth(0), 9987);
     }
 
+    /** The end is where the tape was cut, whatever stood behind it. */
+    private static void cut() {
+        String[] texts = {"moods 5;", "mood 12;", "mood 5x;", "mood 1;", "mood 12345;"};
+        int[] cuts = {4, 6, 6, 6, 9};
+        for (int i = 0; i < texts.length; i++) {
+            HatchLights x = new HatchLights();
+            Due.feed(x, texts[i]);
+            x.end(cuts[i]);
+            x.crossing();
+            DUE.is("cut " + texts[i], x.fault(0), i == 4 ? 4 : 2);
+            DUE.is("cut " + texts[i], x.fault(1), i == 4 ? 5 : cuts[i]);
+        }
+    }
+
+    private static void full() {
+        DUE.fault("a".repeat(1600), 1, 0);
+        DUE.fault("7".repeat(1600), 1, 0);
+        DUE.fault(";".repeat(1600), 2, 0);
+        DUE.fault("mood 1;" + " ".repeat(1592) + "x", 2, 1599);
+        DUE.fault("mood 1;worth " + " ".repeat(1586) + "5", 2, 1600);
+        DUE.fault("worth " + "(".repeat(1594), 2, 13);
+        DUE.fault("worth " + "not\n".repeat(398) + "  ", 2, 34);
+        DUE.is("full of blanks", DUE.told(" ".repeat(1600)).about(0), 0);
+        DUE.is("full", DUE.told("mood" + " ".repeat(1593) + "12;").about(4), 12);
+    }
+
+    /** What one crossing told is not there in the next. */
+    private static void again() {
+        HatchLights x = new HatchLights();
+        String[] texts = {"word a moves 5;comer p road 0 says a;worth " + "not not not 1 and ".repeat(14) + "1;keeps " + "1+".repeat(29) + "1;",
+            "word a moves 5;comer p road 0 says a;", "word a moves 7 tires 2;comer p road 1 says a;worth (mood", ""};
+        for (int i = 0; i < 40; i++) {
+            x.end(0);
+            Due.feed(x, texts[i % 4]);
+            int comers = x.crossing();
+            DUE.is("again", comers, new int[] {1, 1, -1, 0}[i % 4]);
+            DUE.is("again worth", x.worth(0), new int[] {0, -4, -4, -1000000000}[i % 4]);
+            DUE.is("again keeps", x.keeps(0), new int[] {30, 5, 5, -1}[i % 4]);
+            DUE.is("again units", x.about(14), new int[] {45, 0, 0, 0}[i % 4]);
+        }
+    }
+
     private static void lines() {
         DUE.fault("roads 5;", 4, 6);
         DUE.fault("roads 0;", 4, 6);
@@ -135,6 +177,11 @@ public final class TextTest {
             "draw", "or", "and", "not", "moved", "many", "waited", "behind", "hatch"};
         for (String name : reserved) {
             DUE.fault("word " + name + " moves 1;", 2, 5);
+        }
+        String[] nearly = {"loads", "cord", "doves", "fires", "homer", "load", "days", "food", "north", "peeps", "shim",
+            "craw", "ir", "end", "dot", "loved", "zany", "baited", "rehind", "match", "road" + "ss", "wor", "wordy", "m", "an"};
+        for (String name : nearly) {
+            DUE.is("nearly " + name, DUE.told("word " + name + " moves 1;").about(1), 1);
         }
         String eight = "";
         for (String name : new String[] {"e", "both", "one", "sum", "term", "unit", "line", "tire"}) {
@@ -222,6 +269,9 @@ public final class TextTest {
         tape();
         crossing();
         tokens();
+        cut();
+        full();
+        again();
         lines();
         wordLines();
         comerLines();
