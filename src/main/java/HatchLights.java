@@ -506,7 +506,7 @@ public final class HatchLights {
 
     private int pressOfTrial(int n) {
         int waits = 0;
-        for (int i = 0; i < n; i++) {
+        for (int i = 0; i < n && trial.waiting() > 0; i++) {
             trial.openTo(trial.hand, false);
             waits += trial.waiting();
         }

@@ -334,6 +334,14 @@ public final class PromisesTest {
         }
         DUE.is("18 mood of the last", x.about(4), 44);
         DUE.is("18 no more", x.redo(), false);
+        for (int i = 45; i < 245; i++) {
+            x.humour(i % 100);
+        }
+        for (int i = 243; i >= 204; i--) {
+            x.undo();
+            DUE.is("17 far back", x.about(4), i % 100);
+        }
+        DUE.is("17 the oldest went", x.undo(), false);
     }
 
     private static void ahead() {
