@@ -209,6 +209,13 @@ public final class EdgesAheadTest {
                 s.is("will(1, " + what + ")", x.will(1, what), -1);
             }
         });
+        s.hold(T, "WHEN: behind how many HATCHES a COMER is BY.", () -> {
+            HatchLights x = s.told("roads 2;word a moves 20 tires 10;comer p road 1 says a;comer q road 0 says a;comer r road 0 says a;worth moved-9+waited;");
+            // q at 1 (20), p at 2 (10 and waited 1), r at 3 (0 and waited 2) not, at 11 (0 and waited 10).
+            s.is("when(1)", x.when(1), 1);
+            s.is("when(0)", x.when(0), 2);
+            s.is("when(2)", x.when(2), 11);
+        });
         s.hold("Promise 20", "WHEN (0: he is; 60 at most)", () -> {
             s.is("when(0) of one who is", allBy().when(0), 0);
             s.is("when(0)", late(1).when(0), 1);
@@ -365,7 +372,7 @@ public final class EdgesAheadTest {
     }
 
     private static void bestAndLull() {
-        s.hold(T, "BEST ROAD of a COMER: that (his own, where he stays as he is, or another one) by which he is BY soonest (60 HATCHES at most)", () -> {
+        s.hold(T, "BEST ROAD of a COMER: that (his own, where he stays as he is, or another one) by which he is BY soonest (60 HATCHES at most); of like ones the first.", () -> {
             HatchLights x = s.told("roads 3;word a moves 20;comer p road 0 says a;comer q road 0 says a;comer r road 0 says a;comer t road 1 says a;");
             s.is("best(0, 0), as he is", x.best(0, 0), 0);
             s.is("best(0, 1), as he is", x.best(0, 1), 1);
@@ -692,6 +699,11 @@ public final class EdgesAheadTest {
             s.is("reorder(1, 0), in two rows", apart.reorder(1, 0), -1);
             apart.turn(1, 0);
             s.is("reorder(1, 1), in one row", apart.reorder(1, 1), 1);
+            HatchLights turned = s.told("roads 2;word a moves 5;word b moves 20;comer p road 0 says b;comer q road 0 says a;comer r road 1 says a;");
+            turned.turn(0, 1);
+            s.is("reorder(2, 0), p behind r", turned.reorder(2, 0), 0);
+            s.is("reorder(2, 1), p behind r", turned.reorder(2, 1), 2);
+            s.is("reorder(2, 2), p behind r", turned.reorder(2, 2), 5);
         });
         s.hold("Promise 35", "of like ones the first (the lesser number, then the other one)", () -> {
             HatchLights x = s.told("roads 1;word a moves 5;word b moves 20;comer p road 0 says a;comer q road 0 says b;comer r road 0 says b;");

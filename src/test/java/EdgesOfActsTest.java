@@ -511,6 +511,18 @@ public final class EdgesOfActsTest {
             x.undo();
             s.is("undo()", x.undo(), false);
             s.is("about(4)", x.about(4), 0);
+            for (int i = 1; i <= 200; i++) {
+                x.humour(i % 100);
+            }
+            for (int i = 199; i >= 160; i--) {
+                s.is("undo() far on", x.undo(), true);
+                s.is("about(4) far on", x.about(4), i % 100);
+            }
+            s.is("undo() far on", x.undo(), false);
+            for (int i = 161; i <= 200; i++) {
+                s.is("redo() far on", x.redo(), true);
+                s.is("about(4) far on", x.about(4), i % 100);
+            }
         });
     }
 
@@ -592,6 +604,15 @@ public final class EdgesOfActsTest {
             s.is("comer(0, 0) of none", new HatchLights().comer(0, 0), -2);
             s.is("comer(8, 0) of eight", full().comer(8, 0), -2);
         });
+        s.hold("Promise 8", "WORTH of his REASON", () -> {
+            HatchLights x = rows();
+            int[] due = {1, -6, 4};
+            for (int comer = 0; comer < 3; comer++) {
+                s.is("worth(" + comer + ")", x.worth(comer), due[comer]);
+            }
+            x.rehearse(1, 8);
+            s.is("worth(1), rehearsed", x.worth(1), -2);
+        });
         s.hold("Promise 8", "-1000000000 if he is BY, or there is none such", () -> {
             HatchLights x = allBy();
             s.is("worth(0)", x.worth(0), NO);
@@ -600,6 +621,13 @@ public final class EdgesOfActsTest {
             }
             s.is("worth(0) of none", new HatchLights().worth(0), NO);
             s.is("worth(7) of eight", full().worth(7), 387);
+        });
+        s.hold("Promise 9", "KEEPS;", () -> {
+            HatchLights x = rows();
+            s.is("keeps(0)", x.keeps(0), 5);
+            s.is("keeps(2)", x.keeps(2), 10);
+            x.rehearse(0, 15);
+            s.is("keeps(0), rehearsed", x.keeps(0), 20);
         });
         s.hold("Promise 9", "NONE if he is BY, or there is none such", () -> {
             HatchLights x = allBy();
@@ -635,7 +663,7 @@ public final class EdgesOfActsTest {
     // ---- promises 11 to 16
 
     private static void hatchAndOpen() {
-        s.hold("Promise 11", "who is BY by it; -1: nobody", () -> {
+        s.hold("Promise 11", "A HATCH to the ROAD at hand: who is BY by it; -1: nobody", () -> {
             HatchLights x = s.told("roads 2;word a moves 30;word b moves 1;comer p road 0 says b;comer q road 1 says a;comer r road 0 says a;");
             int[] due = {-1, 1, 2, -1, -1};
             for (int who : due) {
@@ -900,6 +928,22 @@ public final class EdgesOfActsTest {
             s.is("undo() of what came then", x.undo(), true);
             s.is("about(4)", x.about(4), 31);
             s.is("undo() of no more", x.undo(), false);
+            for (int mood = 0; mood < 45; mood++) {
+                x.humour(mood);
+            }
+            x.back(2);
+            s.is("undo() of many", x.undo(), false);
+            x.humour(5);
+            x.undo();
+            s.is("about(4) behind many", x.about(4), 31);
+        });
+        s.hold("Promise 51", "the hatch;", () -> {
+            HatchLights x = rows();
+            x.image(0);
+            hatches(x, 7);
+            x.image(1);
+            s.is("back(0)", x.back(0), 0);
+            s.is("back(1)", x.back(1), 7);
         });
         s.hold("Promise 51", "NONE, doing nothing, if nothing was", () -> {
             HatchLights x = done();

@@ -79,6 +79,11 @@ public final class EdgesOfSeenTest {
             asking(x, 0, 0, 70);
             x.untell(0);
             asking(x, 0, 2, 70);
+            x.end(0);
+            Due.feed(x, "roads 1;word a moves 3;word b moves 4;comer p road 0 says a b;worth moved-99;");
+            x.crossing();
+            x.seen(1, 0, true);
+            fitting(x, 0, 3, 97, 99);
         });
         s.hold(T, "but for the last WORD's MOVES at first, which are not known", () -> {
             HatchLights x = s.told("roads 1;word a moves 5;word b moves 7;word k moves 0;comer p road 0 says a k;comer q road 0 says a b;worth moved-11;");

@@ -81,6 +81,11 @@ public final class EdgesOfTextTest {
             s.is("about(4)", s.told(" ".repeat(1593) + "mood 7;").about(4), 7);
             s.is("about(4)", s.told("mood 7;" + "\n".repeat(1593)).about(4), 7);
             s.fault(" ".repeat(1599) + "x", 2, 1599);
+            s.fault(";".repeat(1600), 2, 0);
+            s.fault("a".repeat(1600), 1, 0);
+            s.fault("7".repeat(1600), 1, 0);
+            s.fault("worth " + "(".repeat(1594), 2, 13);
+            s.fault("mood 1;" + " ".repeat(1588) + "draw ", 2, 1600);
         });
         s.hold(T, "(empty at first)", () -> {
             HatchLights x = new HatchLights();
@@ -177,6 +182,10 @@ public final class EdgesOfTextTest {
                 "draw", "or", "and", "a", "x", ";", ")", "<", ">", "=", "+", "-", "*", "/", "%"}) {
                 noFormula(other, 0);
                 noFormula("1+" + other, 2);
+            }
+            for (String sign : new String[] {"or", "and", "<", ">", "=", "+", "-", "*", "/", "%", ")"}) {
+                noFormula("(" + sign + " 1)", 1);
+                noFormula("1 + (" + sign + " 1)", 5);
             }
             noFormula("()", 1);
             noFormula("(1", 2);
@@ -443,6 +452,8 @@ public final class EdgesOfTextTest {
         s.hold(T, "3 a NAME told already (of its sort; in a REASON, too)", () -> {
             s.fault("word a moves 1;word a moves 2;", 3, 20);
             s.fault(FIVE + "word a", 3, FIVE.length() + 5);
+            s.told("word ab moves 1;word ba moves 1;word aab moves 1;word aba moves 1;word abcdefgh moves 1;word abcdefhg moves 1;"
+                    + "comer ab road 0 says ba ab abcdefhg;comer ba road 0 says ab ba;");
             s.fault(FIVE + manyComers(7) + "comer a road 0 says a;", 3, (FIVE + manyComers(7)).length() + 6);
             s.told(FIVE + "comer a road 0 says a;");
             s.told("word a moves 1;comer b road 0 says a;word b moves 1;");
@@ -539,6 +550,17 @@ public final class EdgesOfTextTest {
             s.is("end(0)", x.end(0), 0);
             s.is("crossing()", x.crossing(), 0);
             s.is("end(0) of none", x.end(0), 0);
+            // What stood behind the n-th byte is not there.
+            String[] texts = {"moods 5;", "mood 12;", "mood 5x;", "mood 1;", "worth (1);", "mood 9A;"};
+            int[] cuts = {4, 6, 6, 6, 8, 6};
+            for (int i = 0; i < texts.length; i++) {
+                HatchLights y = new HatchLights();
+                Due.feed(y, texts[i]);
+                s.is("end", y.end(cuts[i]), cuts[i]);
+                s.is("crossing()", y.crossing(), -1);
+                s.is("fault(0) of " + texts[i] + " cut", y.fault(0), 2);
+                s.is("fault(1) of " + texts[i] + " cut", y.fault(1), cuts[i]);
+            }
         });
         s.hold("Promise 3", "NONE, doing nothing, if it has not so many, or n is below 0", () -> {
             HatchLights x = new HatchLights();
@@ -588,7 +610,7 @@ public final class EdgesOfTextTest {
             s.is("about(2)", x.about(2), 4);
             s.is("about(4)", x.about(4), 50);
         });
-        s.hold("Promise 4", "all as told, hatch 0, no minutes", () -> {
+        s.hold("Promise 4", "hatch 0, no minutes", () -> {
             HatchLights x = used();
             s.is("about(6) ahead of it", x.about(6), 1);
             s.is("about(5) ahead of it", x.about(5), 3);
@@ -609,6 +631,26 @@ public final class EdgesOfTextTest {
             anew(x, "");
             s.is("about(2)", x.about(2), 4);
         });
+        s.hold("Promise 4", "all as told", () -> {
+            // What one crossing told is not there in the next, however often.
+            HatchLights x = new HatchLights();
+            String[] texts = {"roads 3;word a moves 5 tires 4;comer p road 0 says a;mood 9;draw 8;whim 100;worth " + "not not not 1 and ".repeat(14) + "1;keeps "
+                + units(30) + ";", "word a moves 5;comer p road 0 says a;", "word a moves 7 tires 2;comer p road 1 says a;worth (mood", ""};
+            for (int i = 0; i < 24; i++) {
+                int at = i % 4;
+                x.end(0);
+                Due.feed(x, texts[at]);
+                s.is("crossing()", x.crossing(), new int[] {1, 1, -1, 0}[at]);
+                s.is("about(2)", x.about(2), new int[] {3, 4, 4, 4}[at]);
+                s.is("about(4)", x.about(4), new int[] {9, 50, 50, 50}[at]);
+                s.is("about(8)", x.about(8), new int[] {8, 0, 0, 0}[at]);
+                s.is("about(14)", x.about(14), new int[] {45, 0, 0, 0}[at]);
+                s.is("odds(1, 0)", x.odds(1, 0), new int[] {0, 1, 1, 1}[at]);
+                s.is("word(0, 1)", x.word(0, 1), new int[] {4, 0, 0, -2}[at]);
+                s.is("worth(0)", x.worth(0), new int[] {0, -4, -4, -1000000000}[at]);
+                s.is("keeps(0)", x.keeps(0), new int[] {30, 5, 5, -1}[at]);
+            }
+        });
         s.hold("Promise 4", "no ACTS are kept", () -> {
             HatchLights x = used();
             s.is("about(9) ahead of it", x.about(9), 2);
@@ -618,15 +660,28 @@ public final class EdgesOfTextTest {
             s.is("about(10)", x.about(10), 0);
             s.is("undo()", x.undo(), false);
             s.is("redo()", x.redo(), false);
+            for (int mood = 0; mood < 45; mood++) {
+                x.humour(mood);
+            }
+            anew(x, "mood 7;");
+            s.is("undo() of many", x.undo(), false);
+            x.humour(3);
+            s.is("undo() of what came then", x.undo(), true);
+            s.is("about(4)", x.about(4), 7);
+            s.is("about(6)", x.about(6), 0);
         });
         s.hold("Promise 4", "nothing is SEEN", () -> {
             HatchLights x = used();
             s.is("about(11) ahead of it", x.about(11), 1);
-            anew(x, "word a moves 3;comer p road 0 says a;");
+            s.is("fits(7) ahead of it", x.fits(7), 100);
+            x.untell(0);
+            anew(x, "roads 1;word k moves 3;comer p road 0 says k;worth moved-59;");
             s.is("about(11)", x.about(11), 0);
             s.is("untell(0)", x.untell(0), false);
             s.is("fits(7)", x.fits(7), 100);
             s.is("seen", x.seen(1, 0, true), 0);
+            s.is("fits(7) of the crossing as told now", x.fits(7), 40);
+            s.is("untell(0) of what is seen now", x.untell(0), true);
         });
         s.hold("Promise 4", "nothing lies there", () -> {
             HatchLights x = used();

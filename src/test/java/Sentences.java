@@ -6,6 +6,7 @@ import java.util.HashSet;
 import java.util.Map;
 import java.util.Set;
 import java.util.function.IntSupplier;
+import java.util.regex.Pattern;
 
 /**
  * Holds the document sentence by sentence: each test says which promise (or which part of "Terms") and which sentence
@@ -15,7 +16,12 @@ final class Sentences {
     static final int LOW = Integer.MIN_VALUE;
     static final int HIGH = Integer.MAX_VALUE;
 
+    private static final Pattern BOUNDARY =
+            Pattern.compile("NONE|-2|-1000000000|true|false|at most|at least|at first|\\.\\.|if not|doing nothing|like ones");
+
     private final Map<String, String> parts = new HashMap<>();
+    /** Of each part what no test holds yet. */
+    private final Map<String, StringBuilder> rests = new HashMap<>();
     private final Set<String> held = new HashSet<>();
     private final Set<String> heldParts = new HashSet<>();
     private String where = "";
@@ -44,6 +50,7 @@ final class Sentences {
             parts.put(i < 4 ? "Terms " + (i + 1) : "The constants", terms[i]);
         }
         parts.put("Head", promises[0].split("## The public face")[0]);
+        parts.forEach((part, words) -> rests.put(part, new StringBuilder(words)));
     }
 
     private static String fold(String text) {
@@ -57,13 +64,24 @@ final class Sentences {
             fail("is held twice");
         }
         heldParts.add(part);
-        if (!parts.isEmpty() && !parts.getOrDefault(part, "").contains(fold(sentence))) {
-            fail("does not stand in the document");
+        if (!parts.isEmpty()) {
+            lookUp(part, fold(sentence));
         }
         int before = answers;
         test.run();
         if (answers == before) {
             fail("is not tested");
+        }
+    }
+
+    private void lookUp(String part, String sentence) {
+        int at = parts.getOrDefault(part, "").indexOf(sentence);
+        if (at < 0) {
+            fail("does not stand in the document");
+            return;
+        }
+        for (int i = at; i < at + sentence.length(); i++) {
+            rests.get(part).setCharAt(i, '_');
         }
     }
 
@@ -149,12 +167,16 @@ final class Sentences {
         is("redo() of " + call, x.redo(), true);
     }
 
-    /** Every part that this test is for must have been held. */
+    /** Every part that this test is for must have been held, and what it leaves must name no boundary. */
     void end(String... due) {
-        where = "at the end";
         for (String part : due) {
+            where = part;
             if (!heldParts.contains(part)) {
-                fail("nothing holds " + part);
+                fail("nothing holds it");
+            }
+            String rest = rests.getOrDefault(part, new StringBuilder()).toString().replaceAll("_+", "_");
+            if (BOUNDARY.matcher(rest).find()) {
+                fail("names a boundary that nothing holds: " + rest);
             }
         }
         System.out.println(held.size() + " sentences, " + answers + " answers, " + wrong + " not as due");
