@@ -455,6 +455,12 @@ public final class EdgesAheadTest {
             HatchLights all = two("1");
             s.is("rivals(0, 1), all alike", all.rivals(0, 1), 4);
             lying(all, "the first of all", 0, 0);
+            // p is let by at once; q at the second, if both say a, at the fourth, if he alone does.
+            HatchLights same = s.told("roads 2;word a moves 10 tires 5;word b moves 10;comer p road 0 says a;comer q road 1 says b;worth hatch=0 or moved=5;");
+            s.is("rivals(0, 1), a of q", same.rivals(0, 1), 2);
+            lying(same, "a and a, b and a", 0, 0);
+            s.is("rivals(1, 0), a of q", same.rivals(1, 0), 2);
+            lying(same, "a and a, a and b", 0, 0);
             // p wants the word that q says, q another one than p says.
             HatchLights none = s.told("roads 2;word a moves 10 tires 5;word b moves 10 tires 5;comer p road 0 says a;"
                     + "comer q road 1 says a;worth waited = 1 and moved = 10 or waited = 2 and moved = 0;");
@@ -584,6 +590,9 @@ public final class EdgesAheadTest {
             s.is("spends(1), q at 2, 4, 6", x.spends(1), 12);
             x.hatch();
             s.is("spends(0) then", x.spends(0), 8);
+            HatchLights y = s.told("roads 3;word a moves 7;comer p road 1 says a;comer q road 2 says a;worth waited>3;keeps 1+waited;");
+            s.is("spends(0), p at 2, 5", y.spends(0), 7);
+            s.is("spends(1), q at 3, 6", y.spends(1), 9);
         });
         s.hold("Promise 30", "NONE if he is not by then, he is BY now, or there is none such", () -> {
             s.is("spends(0)", late(61).spends(0), -1);
@@ -704,6 +713,12 @@ public final class EdgesAheadTest {
             s.is("reorder(2, 0), p behind r", turned.reorder(2, 0), 0);
             s.is("reorder(2, 1), p behind r", turned.reorder(2, 1), 2);
             s.is("reorder(2, 2), p behind r", turned.reorder(2, 2), 5);
+            // Both are by in three hatches either way: p from the second on, q at any.
+            HatchLights both = s.told("roads 1;word a moves 1;word b moves 2;comer p road 0 says a;comer q road 0 says b;worth moved=1 and hatch>0 or moved=2;");
+            s.is("press(3)", both.press(3), 3);
+            s.is("reorder(3, 0), both by", both.reorder(3, 0), 0);
+            s.is("reorder(3, 1), both by", both.reorder(3, 1), 1);
+            s.is("reorder(3, 2), both by", both.reorder(3, 2), 1);
         });
         s.hold("Promise 35", "of like ones the first (the lesser number, then the other one)", () -> {
             HatchLights x = s.told("roads 1;word a moves 5;word b moves 20;comer p road 0 says a;comer q road 0 says b;comer r road 0 says b;");
@@ -773,6 +788,8 @@ public final class EdgesAheadTest {
             s.is("oldest() of all by", allBy().oldest(), -1);
             s.is("oldest() at first", rows().oldest(), 0);
             HatchLights x = rows();
+            x.clock(60);
+            s.is("oldest() behind what lies ahead", x.oldest(), 0);
             x.hatch();
             s.is("oldest(), p is by", x.oldest(), 1);
             HatchLights last = eight("1");

@@ -689,6 +689,9 @@ public final class EdgesOfActsTest {
             s.act("hatch(), not let by", x, () -> x.open(0), -1);
             s.act("hatch() to nobody", x, () -> x.open(2), -1);
             state(x, "then", 1, 50, 10, 3, 0, 868, 3, 0);
+            HatchLights eight = full();
+            s.act("open(3) of eight", eight, () -> eight.open(3), 0);
+            s.act("open(3) of seven", eight, () -> eight.open(3), -1);
         });
         s.hold("Promise 12", "A HATCH to a ROAD: likewise", () -> {
             HatchLights x = rows();

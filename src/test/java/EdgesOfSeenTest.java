@@ -163,6 +163,13 @@ public final class EdgesOfSeenTest {
             // To know all of them at once: two let by or not make four parts.
             HatchLights parts = s.told("roads 2;word k moves 0;comer p road 0 says k;comer q road 1 says k;worth (behind=0)*(hatch%2=0 and moved%2=1 or hatch%2=1 and moved>49);");
             asking(parts, 0, 2, 25);
+            StringBuilder eight = new StringBuilder("roads 1;word k moves 0;");
+            for (char c = 'a'; c < 'i'; c++) {
+                eight.append("comer ").append(c).append(" road 0 says k;");
+            }
+            asking(s.told(eight + "worth 1;"), 0, 0, 100);
+            // Behind n hatches the first n of eight are by, if k moves him by more than hatch * 10.
+            asking(s.told(eight + "worth moved>hatch*10;"), 0, 8, 29);
         });
     }
 
