@@ -45,12 +45,7 @@ public final class AgainstPlainTest {
 
     private boolean feedText(String text) {
         boolean fine = true;
-        String padded = text + " ".repeat((20 - text.length() % 20) % 20);
-        for (int i = 0; i + 20 <= padded.length(); i += 20) {
-            int[] n = new int[5];
-            for (int j = 0; j < 20; j++) {
-                n[j / 4] = n[j / 4] << 8 | padded.charAt(i + j) & 255;
-            }
+        for (int[] n : Due.numbersOf(text)) {
             fine &= lights.feed(n[0], n[1], n[2], n[3], n[4]) == plain.feed(n[0], n[1], n[2], n[3], n[4]);
         }
         fine &= lights.end(text.length()) == plain.end(text.length());

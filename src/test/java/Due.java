@@ -16,15 +16,20 @@ final class Due {
         is(what, got ? 1 : 0, want ? 1 : 0);
     }
 
+    /** A text as the numbers that feed() takes, five at a time; blanks behind it. */
+    static int[][] numbersOf(String text) {
+        int[][] numbers = new int[(text.length() + 19) / 20][5];
+        for (int i = 0; i < 20 * numbers.length; i++) {
+            int sign = i < text.length() ? text.charAt(i) & 255 : ' ';
+            numbers[i / 20][i % 20 / 4] = numbers[i / 20][i % 20 / 4] << 8 | sign;
+        }
+        return numbers;
+    }
+
     /** Puts a text on the tape, behind what is there. */
     static void feed(HatchLights x, String text) {
         int before = x.about(13);
-        String padded = text + " ".repeat((20 - text.length() % 20) % 20);
-        for (int i = 0; i < padded.length(); i += 20) {
-            int[] n = new int[5];
-            for (int j = 0; j < 20; j++) {
-                n[j / 4] = n[j / 4] << 8 | padded.charAt(i + j) & 255;
-            }
+        for (int[] n : numbersOf(text)) {
             x.feed(n[0], n[1], n[2], n[3], n[4]);
         }
         x.end(before + text.length());
